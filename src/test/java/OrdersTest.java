@@ -168,7 +168,7 @@ public final class OrdersTest {
     private static void oneLeak(Check k) {
         k.part("promise 20, which LEAK");
         for (int leaking = 0; leaking < 3; leaking += 2) {
-            for (int amount = 1; amount <= 21; amount += 4) {
+            for (int amount : new int[] {1, 2, 7, 19, 20, 21}) {
                 OilPush x = Check.plant(6, 100);
                 for (int c = 0; c < 3; c++) {
                     x.cylinder(c == 1 ? 1 : 0, 10, 10);
@@ -229,6 +229,7 @@ public final class OrdersTest {
         x.cylinder(0, 10, 10);
         x.cylinder(0, 10, 10);
         x.cylinder(0, 10, 10);
+        Check.load(x, 0, 505);
         Check.load(x, 1, 100);
         x.fill(1, 50);
         x.fill(2, 30);
@@ -243,7 +244,7 @@ public final class OrdersTest {
         x.rule(1, 2, 6);
         x.rule(1, 1, 15);
         x.rule(0, 1, 14);
-        int[][] due = {{14, 44, 21}, {28, 38, 12}, {42, 32, 3}, {56, 26, 0}, {70, 11, 0}, {80, 0, 0}, {66, 0, 0}};
+        int[][] due = {{14, 44, 21}, {28, 38, 12}, {42, 32, 3}, {52, 26, 0}, {62, 11, 0}, {72, 0, 0}, {58, 0, 0}};
         for (int t = 1; t <= due.length; t++) {
             x.tick(1);
             for (int c = 0; c < 3; c++) {

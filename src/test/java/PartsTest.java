@@ -94,6 +94,8 @@ public final class PartsTest {
         k.is(1100, x.about(0, 4), "LOAD at ROOM is the last one");
         x.put(0, 11, 5);
         k.is(1100, x.about(0, 4), "the SHEET's cells are copied");
+        k.is(-2, x.loads(0, 0, 2, 1, 11), "eleven");
+        k.is(10, x.about(0, 7), "how many LOADS");
         k.is(2, x.loads(0, 0, 2, 0, 2), "two");
         k.is(2, x.about(0, 7), "how many LOADS");
         k.is(100, x.about(0, 4), "the last of two");
@@ -103,6 +105,11 @@ public final class PartsTest {
         x.put(0, 0, 0);
         k.is(1, x.loads(0, 0, 2, 0, 1), "a load of 0");
         k.is(0, x.about(0, 4), "LOAD");
+        x.cylinder(0, 1, 1);
+        k.is(3, x.loads(1, 0, 2, 1, 3), "three in a ROOM of 1");
+        k.is(100, x.about(1, 4), "the first");
+        x.fill(1, 1);
+        k.is(300, x.about(1, 4), "the last");
     }
 
     private static void loadsRefused(Check k) {
@@ -211,6 +218,8 @@ public final class PartsTest {
         k.is(14, x.sum(4), "as it was");
         k.is(1, x.store(30, 1, 100), "just that CAP");
         k.is(1, x.sum(4), "its PRESSURE");
+        x.store(30, 1, 1);
+        k.is(31, x.sum(4), "its PRESSURE, STIFF 1");
         k.is(30, x.sum(3), "its OIL stays");
         x.tick(1);
         k.is(30, x.gauge(1), "it is full: all goes over");

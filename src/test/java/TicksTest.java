@@ -228,6 +228,36 @@ public final class TicksTest {
         k.is(41, x.sum(4), "a PRESSURE above R TAKES nothing");
     }
 
+    private static void byOne(Check k) {
+        k.part("(4): just 1");
+        OilPush x = Check.plant(1, 40);
+        x.tick(1);
+        gauges(k, x, 40, 1, 0, 0);
+        x.store(1, 10, 1);
+        x.tick(1);
+        gauges(k, x, 10, 0, 1, 0);
+        k.is(11, x.sum(4), "its PRESSURE");
+        x.tick(1);
+        gauges(k, x, 40, 1, 0, 0);
+        x.store(9, 39, 1);
+        x.tick(1);
+        gauges(k, x, 40, 0, 1, 0);
+        x.tick(1);
+        gauges(k, x, 40, 1, 0, 0);
+        k.is(2, x.sum(3), "a PRESSURE of R TAKES, one above it does not");
+        x.store(9, 0, 1);
+        x.cylinder(0, 1, 1);
+        x.valve(0, 1);
+        x.tick(1);
+        gauges(k, x, 0, 0, 0, 1);
+        k.is(1, x.about(0, 9), "what it TOOK");
+        x.fill(0, 0);
+        x.pump(0, 0);
+        x.tick(1);
+        gauges(k, x, 0, 0, -1, 0);
+        sums(k, x, 3 * 40, 0, 40 + 10 + 40 + 40 + 40);
+    }
+
     private static void storeGives(Check k) {
         k.part("(5): THE STORE gives");
         OilPush x = Check.plant(100, 90);
@@ -376,6 +406,7 @@ public final class TicksTest {
         losses(k);
         lossesOnTheWay(k);
         storeTakes(k);
+        byOne(k);
         storeGives(k);
         storeGivesOnlyThen(k);
         manyAtOnce(k);
