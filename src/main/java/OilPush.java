@@ -11,6 +11,7 @@ public final class OilPush {
     private static final int MOST_AT_ONCE = 200, MOST_TICKS = 100000, MOST_TRIED_TICKS = 200;
     private static final int MOST_TRIED_LEAK = 20;
     private static final int SHUT = 0, OUT = 1, IN = 2;
+    private static final int NO_END = 0, AT_ROOM = 1, AT_NOTHING = 2;
 
     private final Plant plant = new Plant();
     private final State now = new State();
@@ -215,7 +216,7 @@ public final class OilPush {
         if (plant.at(c) == null || plant.at(d) == null) {
             return UNKNOWN;
         }
-        if (!within(end, 0, 2) || !within(v, SHUT, IN)) {
+        if (!within(end, NO_END, AT_NOTHING) || !within(v, SHUT, IN)) {
             return OUTSIDE;
         }
         return orders.add(c, end, d, v) ? orders.count : FULL;
@@ -398,8 +399,8 @@ public final class OilPush {
             case 1: return orders.count;
             case 2: return readings.count;
             case 3: return ticks;
-            case 4: return plant.howManyAt(1, now);
-            case 5: return plant.howManyAt(2, now);
+            case 4: return plant.howManyAt(AT_ROOM, now);
+            case 5: return plant.howManyAt(AT_NOTHING, now);
             default: return OUTSIDE;
         }
     }
@@ -488,7 +489,7 @@ public final class OilPush {
         }
 
         final boolean isAt(int end, int oil) {
-            return end == 0 || oil == (end == 1 ? room() : 0);
+            return end == NO_END || oil == (end == AT_ROOM ? room() : 0);
         }
 
         final int newCrack(int v) {

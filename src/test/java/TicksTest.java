@@ -350,22 +350,29 @@ public final class TicksTest {
         gauges(k, x, 0, 0, -7, 0);
     }
 
+    private static OilPush working() {
+        OilPush x = Check.plant(7, 30);
+        x.cylinder(0, 3, 30);
+        x.cylinder(2, 4, 30);
+        Check.load(x, 0, 10, 60, 20);
+        Check.load(x, 1, 90, 5, 200);
+        x.store(40, 9, 3);
+        x.valve(0, 1);
+        x.valve(1, 1);
+        x.rule(1, 1, 4);
+        return x;
+    }
+
     private static void manyAtOnce(Check k) {
         k.part("n TICKS are n times one");
-        OilPush x = Check.plant(7, 30);
-        OilPush y = Check.plant(7, 30);
-        for (OilPush z : new OilPush[] {x, y}) {
-            z.cylinder(0, 3, 30);
-            z.cylinder(2, 4, 30);
-            Check.load(z, 0, 10, 60, 20);
-            Check.load(z, 1, 90, 5, 200);
-            z.store(40, 9, 3);
-            z.valve(0, 1);
-            z.valve(1, 1);
-            z.rule(1, 1, 4);
-        }
+        OilPush x = working();
+        OilPush y = working();
+        // What comes into THE STORE at its own PRESSURE is neither HEAT nor WORK, but GIVEN.
+        long stored = 0;
         for (int i = 0; i < 60; i++) {
+            long own = x.sum(4);
             x.tick(1);
+            stored += own * Math.max(0, x.gauge(2));
         }
         y.tick(60);
         for (int what = 0; what < 5; what++) {
@@ -374,27 +381,8 @@ public final class TicksTest {
         for (int what = 0; what < 4; what++) {
             k.is(x.gauge(what), y.gauge(what), "gauge(" + what + ")");
         }
-        k.is(x.sum(2), x.sum(0) + x.sum(1) + storeWork(), "what is GIVEN");
-    }
-
-    /** The OIL of THE STORE of manyAtOnce came in at its own PRESSURE: that is neither HEAT nor WORK. */
-    private static long storeWork() {
-        OilPush z = Check.plant(7, 30);
-        z.cylinder(0, 3, 30);
-        z.cylinder(2, 4, 30);
-        Check.load(z, 0, 10, 60, 20);
-        Check.load(z, 1, 90, 5, 200);
-        z.store(40, 9, 3);
-        z.valve(0, 1);
-        z.valve(1, 1);
-        z.rule(1, 1, 4);
-        long work = 0;
-        for (int i = 0; i < 60; i++) {
-            long own = z.sum(4);
-            z.tick(1);
-            work += own * Math.max(0, z.gauge(2));
-        }
-        return work;
+        k.isTrue(stored > 0, "THE STORE TOOK");
+        k.is(x.sum(2), x.sum(0) + x.sum(1) + stored, "what is GIVEN");
     }
 
     public static void main(String[] args) {
