@@ -26,6 +26,20 @@ final class Check {
         is(1, so ? 1 : 0, what);
     }
 
+    /** What the gauges tell of the latest TICK. */
+    void gauges(OilPush x, int pressure, int over, int store, int takers) {
+        is(pressure, x.gauge(0), "THE PRESSURE");
+        is(over, x.gauge(1), "over THE LIMIT");
+        is(store, x.gauge(2), "what THE STORE TOOK");
+        is(takers, x.gauge(3), "how many TOOK");
+    }
+
+    void sums(OilPush x, long heat, long work, long given) {
+        is(heat, x.sum(0), "HEAT");
+        is(work, x.sum(1), "WORK");
+        is(given, x.sum(2), "GIVEN");
+    }
+
     void end() {
         System.out.println(test + ": " + asked + " rows, " + wrong + " wrong");
         if (wrong != 0 || asked == 0) {

@@ -1,18 +1,5 @@
 /** Promises 11 to 14, and what a TICK does. */
 public final class TicksTest {
-    private static void gauges(Check k, OilPush x, int pressure, int over, int store, int takers) {
-        k.is(pressure, x.gauge(0), "THE PRESSURE");
-        k.is(over, x.gauge(1), "over THE LIMIT");
-        k.is(store, x.gauge(2), "THE STORE TOOK");
-        k.is(takers, x.gauge(3), "how many TOOK");
-    }
-
-    private static void sums(Check k, OilPush x, long heat, long work, long given) {
-        k.is(heat, x.sum(0), "HEAT");
-        k.is(work, x.sum(1), "WORK");
-        k.is(given, x.sum(2), "GIVEN");
-    }
-
     private static void counting(Check k) {
         k.part("promise 11");
         OilPush x = new OilPush();
@@ -53,7 +40,7 @@ public final class TicksTest {
         x.cylinder(0, 5, 5);
         x.valve(0, 1);
         x.tick(1);
-        gauges(k, x, 0, 0, 0, 1);
+        k.gauges(x, 0, 0, 0, 1);
         k.is(-2, x.gauge(4), "gauge(4)");
         k.is(0, x.mover(0), "mover(0)");
         k.is(-1, x.mover(1), "mover(1)");
@@ -62,9 +49,9 @@ public final class TicksTest {
         k.is(Long.MIN_VALUE, x.sum(5), "sum(5)");
         k.is(Long.MIN_VALUE, x.sum(-1), "sum(-1)");
         x.start();
-        gauges(k, x, 0, 0, 0, 1);
+        k.gauges(x, 0, 0, 0, 1);
         x.tick(5);
-        gauges(k, x, 10, 5, 0, 0);
+        k.gauges(x, 10, 5, 0, 0);
         k.is(-1, x.mover(0), "none TOOK");
     }
 
@@ -79,7 +66,7 @@ public final class TicksTest {
             x.valve(c, 1);
         }
         x.tick(1);
-        gauges(k, x, 30, 0, 0, 5);
+        k.gauges(x, 30, 0, 0, 5);
         int[] order = {5, 1, 3, 0, 2};
         int[] took = {20, 21, 11, 23, 0, 25};
         for (int i = 0; i < 5; i++) {
@@ -89,15 +76,15 @@ public final class TicksTest {
             k.is(took[c], x.about(c, 9), "what " + c + " TOOK");
             k.is(took[c], x.about(c, 3), "OIL of " + c);
         }
-        sums(k, x, 25 * 30 + 44 * 20, 44 * 10 + 31 * 30, 100 * 30);
+        k.sums(x, 25 * 30 + 44 * 20, 44 * 10 + 31 * 30, 100 * 30);
         x.pump(0, 25);
         x.tick(1);
-        gauges(k, x, 0, 0, 0, 1);
+        k.gauges(x, 0, 0, 0, 1);
         k.is(0, x.about(0, 9), "nothing was left for it");
         k.is(-1, x.mover(1), "those that TOOK 0 are no movers");
         x.pump(0, 70);
         x.tick(1);
-        gauges(k, x, 30, 0, 0, 4);
+        k.gauges(x, 30, 0, 0, 4);
     }
 
     private static void limit(Check k) {
@@ -120,20 +107,20 @@ public final class TicksTest {
         k.is(20, x.about(0, 9), "NEED is R: it MOVES");
         k.is(0, x.about(1, 9), "NEED is above R");
         k.is(0, x.about(2, 9), "it is full");
-        gauges(k, x, 20, 20, 0, 1);
-        sums(k, x, 20 * 20, 20 * 20, 40 * 20);
+        k.gauges(x, 20, 20, 0, 1);
+        k.sums(x, 20 * 20, 20 * 20, 40 * 20);
         x.fill(0, 15);
         x.tick(1);
         k.is(5, x.about(0, 9), "what is left of its ROOM");
-        gauges(k, x, 20, 35, 0, 1);
+        k.gauges(x, 20, 35, 0, 1);
         x.fill(0, 0);
         x.fill(2, 0);
         Check.load(x, 2, 0);
         x.rule(2, 0, 2);
         x.pump(0, 45);
         x.tick(1);
-        gauges(k, x, 20, 5, 0, 2);
-        sums(k, x, 20 * 20 + 35 * 20 + 20 * 18 + 5 * 20, 25 * 20 + 20 * 2 + 20 * 20, 40 * 20 * 2 + 45 * 20);
+        k.gauges(x, 20, 5, 0, 2);
+        k.sums(x, 20 * 20 + 35 * 20 + 20 * 18 + 5 * 20, 25 * 20 + 20 * 2 + 20 * 20, 40 * 20 * 2 + 45 * 20);
     }
 
     private static void losses(Check k) {
@@ -156,7 +143,7 @@ public final class TicksTest {
                         String which = "kind " + kind + ", burst " + burst + ", valve " + valve + ", load " + load;
                         k.is(-due, x.about(0, 9), which);
                         k.is(30 - due, x.about(0, 3), which);
-                        gauges(k, x, 0, 0, 0, 0);
+                        k.gauges(x, 0, 0, 0, 0);
                         x.fill(0, 3);
                         x.tick(1);
                         k.is(-Math.min(due, 3), x.about(0, 9), "all it has, " + which);
@@ -184,7 +171,7 @@ public final class TicksTest {
         x.rule(0, 1, 2);
         x.tick(1);
         k.is(-2, x.about(0, 9), "BURST: it does not MOVE, and loses FLOW");
-        gauges(k, x, 100, 10, 0, 0);
+        k.gauges(x, 100, 10, 0, 0);
         x.burst(0, false);
         x.rule(0, 1, 1000);
         x.pump(0, 30);
@@ -192,9 +179,9 @@ public final class TicksTest {
         Check.load(x, 0, 5, 500);
         x.tick(1);
         k.is(30, x.about(0, 3), "one NEED for all of a TICK");
-        gauges(k, x, 1, 0, 0, 1);
+        k.gauges(x, 1, 0, 0, 1);
         x.tick(1);
-        gauges(k, x, 100, 10, 0, 1);
+        k.gauges(x, 100, 10, 0, 1);
         k.is(50, x.about(0, 3), "LOAD of the second half");
     }
 
@@ -207,24 +194,24 @@ public final class TicksTest {
         x.rule(0, 1, 12);
         x.valve(0, 1);
         x.tick(1);
-        gauges(k, x, 15, 0, 18, 1);
-        sums(k, x, 18 * 5, 12 * 15, 30 * 15);
+        k.gauges(x, 15, 0, 18, 1);
+        k.sums(x, 18 * 5, 12 * 15, 30 * 15);
         x.tick(1);
-        gauges(k, x, 19, 0, 18, 1);
-        sums(k, x, 18 * 5 + 12 * 4, 2 * 12 * 15, 30 * 15 + 30 * 19);
+        k.gauges(x, 19, 0, 18, 1);
+        k.sums(x, 18 * 5 + 12 * 4, 2 * 12 * 15, 30 * 15 + 30 * 19);
         x.tick(1);
-        gauges(k, x, 40, 4, 14, 1);
-        sums(k, x, 90 + 48 + 12 * 25 + 14 * 12 + 4 * 40, 3 * 12 * 15, 30 * (15 + 19 + 40));
+        k.gauges(x, 40, 4, 14, 1);
+        k.sums(x, 90 + 48 + 12 * 25 + 14 * 12 + 4 * 40, 3 * 12 * 15, 30 * (15 + 19 + 40));
         k.is(50, x.sum(3), "OIL in THE STORE");
         k.is(35, x.sum(4), "its PRESSURE");
         x.tick(1);
-        gauges(k, x, 40, 18, 0, 1);
+        k.gauges(x, 40, 18, 0, 1);
         x.store(60, 15, 2);
         x.tick(1);
-        gauges(k, x, 40, 8, 10, 1);
+        k.gauges(x, 40, 8, 10, 1);
         x.store(90, 11, 2);
         x.tick(1);
-        gauges(k, x, 40, 18, 0, 1);
+        k.gauges(x, 40, 18, 0, 1);
         k.is(41, x.sum(4), "a PRESSURE above R TAKES nothing");
     }
 
@@ -232,30 +219,30 @@ public final class TicksTest {
         k.part("(4): just 1");
         OilPush x = Check.plant(1, 40);
         x.tick(1);
-        gauges(k, x, 40, 1, 0, 0);
+        k.gauges(x, 40, 1, 0, 0);
         x.store(1, 10, 1);
         x.tick(1);
-        gauges(k, x, 10, 0, 1, 0);
+        k.gauges(x, 10, 0, 1, 0);
         k.is(11, x.sum(4), "its PRESSURE");
         x.tick(1);
-        gauges(k, x, 40, 1, 0, 0);
+        k.gauges(x, 40, 1, 0, 0);
         x.store(9, 39, 1);
         x.tick(1);
-        gauges(k, x, 40, 0, 1, 0);
+        k.gauges(x, 40, 0, 1, 0);
         x.tick(1);
-        gauges(k, x, 40, 1, 0, 0);
+        k.gauges(x, 40, 1, 0, 0);
         k.is(2, x.sum(3), "a PRESSURE of R TAKES, one above it does not");
         x.store(9, 0, 1);
         x.cylinder(0, 1, 1);
         x.valve(0, 1);
         x.tick(1);
-        gauges(k, x, 0, 0, 0, 1);
+        k.gauges(x, 0, 0, 0, 1);
         k.is(1, x.about(0, 9), "what it TOOK");
         x.fill(0, 0);
         x.pump(0, 0);
         x.tick(1);
-        gauges(k, x, 0, 0, -1, 0);
-        sums(k, x, 3 * 40, 0, 40 + 10 + 40 + 40 + 40);
+        k.gauges(x, 0, 0, -1, 0);
+        k.sums(x, 3 * 40, 0, 40 + 10 + 40 + 40 + 40);
     }
 
     private static void storeGives(Check k) {
@@ -282,9 +269,9 @@ public final class TicksTest {
             k.is(oil[c], x.about(c, 3), "OIL of " + c);
             k.is(oil[c], x.about(c, 9), "what " + c + " TOOK");
         }
-        gauges(k, x, 30, 0, -20, 2);
+        k.gauges(x, 30, 0, -20, 2);
         k.is(80, x.sum(3), "OIL in THE STORE");
-        sums(k, x, heat, 30 * 30, given + 30 * 30);
+        k.sums(x, heat, 30 * 30, given + 30 * 30);
         k.is(2, x.mover(1), "mover(1)");
         x.pump(0, 0);
         x.tick(1);
@@ -292,8 +279,8 @@ public final class TicksTest {
         for (int c = 0; c < 4; c++) {
             k.is(later[c], x.about(c, 3), "OIL of " + c);
         }
-        gauges(k, x, 0, 0, -50, 0);
-        sums(k, x, heat, 30 * 30, given + 30 * 30);
+        k.gauges(x, 0, 0, -50, 0);
+        k.sums(x, heat, 30 * 30, given + 30 * 30);
         k.is(30, x.sum(3), "OIL in THE STORE");
         k.is(-1, x.mover(0), "from THE STORE is no mover");
         Check.load(x, 1, 26);
@@ -301,7 +288,7 @@ public final class TicksTest {
         x.tick(1);
         k.is(60, x.about(1, 3), "the rest of ROOM");
         k.is(50, x.about(2, 3), "26 is above 24");
-        gauges(k, x, 0, 0, -10, 0);
+        k.gauges(x, 0, 0, -10, 0);
         Check.load(x, 0, 0);
         Check.load(x, 3, 0);
         x.tick(1);
@@ -320,34 +307,34 @@ public final class TicksTest {
         x.rule(0, 1, 8);
         x.valve(0, 1);
         x.tick(1);
-        gauges(k, x, 90, 2, 0, 1);
+        k.gauges(x, 90, 2, 0, 1);
         k.is(10, x.sum(3), "something was left of Q");
         x.rule(0, 1, 10);
         x.tick(1);
-        gauges(k, x, 0, 0, 0, 1);
+        k.gauges(x, 0, 0, 0, 1);
         k.is(10, x.sum(3), "it has TAKEN FLOW");
         x.rule(0, 1, 13);
         x.tick(1);
-        gauges(k, x, 0, 0, -3, 1);
+        k.gauges(x, 0, 0, -3, 1);
         k.is(13, x.about(0, 9), "from PUMP and STORE");
         x.fill(0, 50);
         x.tick(1);
-        gauges(k, x, 0, 0, 0, 1);
+        k.gauges(x, 0, 0, 0, 1);
         k.is(60, x.about(0, 3), "it has TAKEN its ROOM's rest");
         x.valve(1, 1);
         x.burst(1, true);
         x.pump(0, 0);
         x.tick(1);
-        gauges(k, x, 0, 0, 0, 0);
+        k.gauges(x, 0, 0, 0, 0);
         x.burst(1, false);
         x.rule(1, 0, 91);
         x.store(10, 100, 1);
         x.tick(1);
-        gauges(k, x, 0, 0, 0, 0);
+        k.gauges(x, 0, 0, 0, 0);
         k.is(7, x.sum(3), "NEED above R: not of (3)");
         x.rule(1, 0, 90);
         x.tick(1);
-        gauges(k, x, 0, 0, -7, 0);
+        k.gauges(x, 0, 0, -7, 0);
     }
 
     private static OilPush working() {
